@@ -841,8 +841,8 @@ public final class RoofAcross {
 
     /** Wishes, and the ways to own roofs that come of them. */
     private static final class Exchange {
-        /** Each change adds two wishes at least, of 72 that can be had. */
-        private static final int MOST_CHANGES = 36;
+        /** Far above any run: each change adds two wishes at least, of 72 that can be had. */
+        private static final int MOST_CHANGES = 1000;
 
         final Village village;
         final int[][] wishes = new int[MOST_HOUSES][MOST_HOUSES];

@@ -36,6 +36,7 @@ final class PromisesTest {
         writes();
         counts();
         digests();
+        answersFollowChanges();
         refusalsChangeNothing();
         check.end();
     }
@@ -473,6 +474,9 @@ final class PromisesTest {
         x.fact(7, 0, 1);
         due("a house that is not there", x.could(NONE), 0);
         x.forget();
+        x.fact(3, 0, 1);
+        due("the first that is not there", x.could(NONE), 0);
+        x.forget();
         x.fact(0, 1, 1);
         x.fact(1, 1, 1);
         due("two of one roof", x.could(NONE), 0);
@@ -749,6 +753,61 @@ final class PromisesTest {
         }
         h = fold(h, 0, 0, 0, 0, 0, 0, 0, 720, 0, 120, 0, 0);
         due("six houses", six.digest(), h);
+        RoofAcross rich = street("10k;23g;31f;02l", "1032", 9, 4, 6, 2, 9);
+        rich.wish(0, 0, 3);
+        rich.wish(1, 1, 4);
+        rich.wish(2, 0, 9);
+        rich.fact(0, 3, 0);
+        rich.claim(1, 5);
+        due("hands matter", rich.hands(8, NONE) - rich.hands(9, NONE), 4);
+        due("hands matter", rich.hands(9, NONE) - rich.hands(10, NONE), 4);
+        due("changes matter", rich.market(NONE), 1);
+        due("four houses", rich.digest(), foldedByTheDocument(rich));
+    }
+
+    private static long foldedByTheDocument(RoofAcross x) {
+        long h = 17;
+        for (int i = 0; i < 8; i++) {
+            h = fold(h, x.count(i));
+        }
+        h = fold(h, x.fault(0), x.fault(1));
+        int k = x.count(3);
+        for (int it = 0; it < x.count(0); it++) {
+            h = fold(h, x.house(it, 0), x.house(it, 1), x.house(it, 2), x.house(it, 3), x.house(it, 4));
+            h = fold(h, x.tiles(it, k), x.purse(it, k), x.harm(it, k), x.laid(it, k), x.ring(it, 0), x.ring(it, 1));
+            h = fold(h, x.dry(it, 3, 0), x.dry(it, 3, 1), x.market(it), x.best(it), x.could(it), x.hands(9, it));
+        }
+        h = fold(h, x.all(k, 0), x.all(k, 1), x.all(k, 2), x.all(k, 3), x.market(NONE), x.market(-2), x.best(NONE));
+        return fold(h, x.could(NONE), x.ask(0), x.ask(1), x.hands(9, NONE), x.liars());
+    }
+
+    /** What was answered once must not be answered again when what it hangs on has changed. */
+    private static void answersFollowChanges() {
+        promise = "changes are seen";
+        RoofAcross x = street("02k;02k;30l", "012", 2, 2);
+        row("at first", of(x.all(2, 2), x.harm(0, 2), x.dry(0, 3, 0), x.hands(0, NONE)), 6, 3, 1, 8);
+        x.set(0, 3);
+        row("another price", of(x.all(2, 2), x.harm(0, 2), x.dry(0, 3, 0)), 8, 4, 0);
+        x.set(0, 1);
+        row("the old price", of(x.all(2, 2), x.harm(0, 2), x.dry(0, 3, 0)), 6, 3, 1);
+        x.rain(1);
+        row("a rain more", of(x.all(2, 2), x.harm(0, 3), x.dry(0, 4, 0)), 6, 3, 1);
+        x.undo();
+        row("one less", of(x.dry(0, 4, 0), x.hands(0, NONE)), 4, 8);
+        x.wipe(0);
+        typeAll(x, 0, "50l");
+        row("other houses", of(x.all(2, 0), x.all(2, 2), x.dry(0, 0, 0), x.hands(0, NONE), x.could(NONE), x.ask(0)), 5, 0, 4, 0, 1, 0);
+        x = street("00k;00k", "");
+        x.fact(0, 0, 1);
+        row("a fact", of(x.could(NONE), x.could(0)), 1, 1);
+        x.forget();
+        row("forgotten", of(x.could(NONE), x.could(0)), 2, 3);
+        x.wish(0, 1, 5);
+        row("a wish", of(x.market(-2), x.best(NONE)), 5, 5);
+        x.wish(0, 1, 2);
+        row("a lesser one", of(x.market(-2), x.best(NONE)), 2, 2);
+        typeAll(x, 1, "01");
+        row("other lots", of(x.market(-2), x.market(0), x.best(NONE)), 0, 0, 2);
     }
 
     private static void refusalsChangeNothing() {
