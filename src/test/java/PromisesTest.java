@@ -1,14 +1,7 @@
 /** Each promise of the document: ordinary inputs, the edges that it names, and wrong inputs. */
-final class PromisesTest {
-    private static final int NONE = RoofAcross.NONE, BAD = RoofAcross.BAD, NOT = RoofAcross.NOT, FULL = RoofAcross.FULL;
-    private static final int NULL = -11, INDEX = -12, CAST = -13, STORE = -14, SIZE = -15;
-    private static final int LEAST = Integer.MIN_VALUE, GREATEST = Integer.MAX_VALUE;
-    private static final String EIGHT = "00k;11g;22f;33l;44k;55g;66f;77l";
-
-    private static final Check check = new Check("PromisesTest");
-    private static String promise = "";
-
+final class PromisesTest extends Streets {
     public static void main(String[] args) {
+        begin(PromisesTest.class);
         newObject();
         typeBytes();
         wipeTexts();
@@ -38,34 +31,7 @@ final class PromisesTest {
         digests();
         answersFollowChanges();
         refusalsChangeNothing();
-        check.end();
-    }
-
-    private static RoofAcross street(String houses, String lots, int... rains) {
-        RoofAcross x = new RoofAcross();
-        typeAll(x, 0, houses);
-        typeAll(x, 1, lots);
-        for (int r : rains) {
-            x.rain(r);
-        }
-        return x;
-    }
-
-    private static void typeAll(RoofAcross x, int text, String t) {
-        for (char c : t.toCharArray()) {
-            x.type(text, c);
-        }
-    }
-
-    private static void due(String call, long got, long want) {
-        check.due(promise + ": " + call, got, want);
-    }
-
-    /** The answers of one call for houses 0 on, or for any row of numbers. */
-    private static void row(String call, int[] got, int... want) {
-        for (int i = 0; i < want.length; i++) {
-            due(call + " [" + i + "]", got[i], want[i]);
-        }
+        end();
     }
 
     private static void state(RoofAcross x, int k, int[] tiles, int[] purse, int[] harm, int[] laid) {
@@ -77,12 +43,8 @@ final class PromisesTest {
         }
     }
 
-    private static int[] of(int... numbers) {
-        return numbers;
-    }
-
     private static void newObject() {
-        promise = "1 new object";
+        sentence("1 new object");
         RoofAcross x = new RoofAcross();
         int[] counts = {0, 0, 0, 0, 0, 0, 1, 0, 0};
         for (int what = 0; what < counts.length; what++) {
@@ -105,7 +67,7 @@ final class PromisesTest {
     }
 
     private static void typeBytes() {
-        promise = "2 type";
+        sentence("2 type");
         RoofAcross x = new RoofAcross();
         for (int n = 1; n <= 40; n++) {
             due("type(0, 0)", x.type(0, 0), n);
@@ -127,7 +89,7 @@ final class PromisesTest {
     }
 
     private static void wipeTexts() {
-        promise = "3 wipe";
+        sentence("3 wipe");
         RoofAcross x = street("35k;24g", "10", 5);
         due("wipe(1)", x.wipe(1), 2);
         due("wipe(1)", x.wipe(1), 0);
@@ -142,7 +104,7 @@ final class PromisesTest {
     }
 
     private static void faultOfHouses() {
-        promise = "4 fault";
+        sentence("4 fault");
         String[] texts = {
             "", "35k", "35k;24g", "00k;11g;22f;33l;44k;55g;66f;77l", "3", "35", "35k;", "x", "3x", "35x", "35kk", "35k;;",
             "k", ";", "35;", "/5k", ":5k", "3/k", "3:k", "35k;x", "35K", EIGHT + ";", EIGHT + ";0", EIGHT + ";00k", EIGHT + ";x",
@@ -164,7 +126,7 @@ final class PromisesTest {
     }
 
     private static void faultOfLots() {
-        promise = "4 fault";
+        sentence("4 fault");
         String three = "35k;24g;12f";
         String[][] texts = {
             {three, "120"}, {three, "012"}, {three, ""}, {three, "1"}, {three, "12"}, {three, "1200"}, {three, "11"}, {three, "13"},
@@ -178,7 +140,7 @@ final class PromisesTest {
     }
 
     private static void houseAsTold() {
-        promise = "5 house";
+        sentence("5 house");
         RoofAcross x = street("35k;24g;19f;90l", "2031", 9, 9);
         int[][] told = {{3, 5, 0, 2, 1}, {2, 4, 1, 0, 3}, {1, 9, 2, 3, 0}, {9, 0, 3, 1, 2}};
         for (int h = 0; h < 4; h++) {
@@ -199,7 +161,7 @@ final class PromisesTest {
     }
 
     private static void rainsAndUndo() {
-        promise = "6 rain, 8 undo";
+        sentence("6 rain, 8 undo");
         RoofAcross x = new RoofAcross();
         due("undo()", x.undo(), NOT);
         for (int n = 1; n <= 12; n++) {
@@ -223,7 +185,7 @@ final class PromisesTest {
     }
 
     private static void readRains() {
-        promise = "7 read";
+        sentence("7 read");
         RoofAcross x = street("00l", "");
         x.sheet(0, 0, 5);
         int[] items = {3, 9, 0, 10, 4};
@@ -249,7 +211,7 @@ final class PromisesTest {
     }
 
     private static void setPriceAndWear() {
-        promise = "9 set";
+        sentence("9 set");
         RoofAcross x = new RoofAcross();
         due("set(0, 9)", x.set(0, 9), 1);
         due("set(0, 1)", x.set(0, 1), 9);
@@ -268,7 +230,7 @@ final class PromisesTest {
     }
 
     private static void behindRains() {
-        promise = "10 tiles, 11 purse, 12 harm, 13 laid";
+        sentence("10 tiles, 11 purse, 12 harm, 13 laid");
         RoofAcross x = street("35k;24g;12f", "120", 4, 6);
         state(x, 0, of(3, 2, 1), of(5, 4, 2), of(0, 0, 0), of(0, 0, 0));
         state(x, 1, of(3, 3, 1), of(4, 4, 2), of(1, 2, 3), of(0, 1, 0));
@@ -289,7 +251,7 @@ final class PromisesTest {
     }
 
     private static void temperRules() {
-        promise = "2 A RAIN";
+        sentence("2 A RAIN");
         due("who fears, 2", street("09f", "0", 2).laid(0, 1), 0);
         due("who fears, 3", street("09f", "0", 3).laid(0, 1), 1);
         due("who keeps, 1", street("09k", "0", 1).laid(0, 1), 1);
@@ -315,7 +277,7 @@ final class PromisesTest {
     }
 
     private static void allTogether() {
-        promise = "14 all";
+        sentence("14 all");
         RoofAcross x = street("35k;24g;12f", "120", 4, 6);
         row("all(0, ..)", of(x.all(0, 0), x.all(0, 1), x.all(0, 2), x.all(0, 3)), 6, 11, 0, 0);
         row("all(1, ..)", of(x.all(1, 0), x.all(1, 1), x.all(1, 2), x.all(1, 3)), 7, 10, 6, 1);
@@ -330,7 +292,7 @@ final class PromisesTest {
     }
 
     private static void rings() {
-        promise = "15 ring";
+        sentence("15 ring");
         RoofAcross x = street(EIGHT, "23410756");
         int[] bits = {21, 10, 21, 10, 21, 224, 224, 224};
         int[] sizes = {3, 2, 3, 2, 3, 3, 3, 3};
@@ -349,7 +311,7 @@ final class PromisesTest {
     }
 
     private static void dryRings() {
-        promise = "16 dry";
+        sentence("16 dry");
         RoofAcross x = street("05l", "0", 1, 1);
         row("one house", of(x.dry(0, 0, 0), x.dry(0, 0, 1), x.dry(0, 1, 0), x.dry(0, 1, 1), x.dry(0, 2, 0)), 0, NONE, 1, 0, 4);
         x = street("01k", "0", 1, 2, 3, 1, 1);
@@ -381,7 +343,7 @@ final class PromisesTest {
     }
 
     private static void wishesAndWants() {
-        promise = "17 wish, 18 want";
+        sentence("17 wish, 18 want");
         RoofAcross x = street("00k;00k;00k", "012");
         due("wish(7, 7, 9)", x.wish(7, 7, 9), 0);
         due("wish(7, 7, 0)", x.wish(7, 7, 0), 9);
@@ -408,7 +370,7 @@ final class PromisesTest {
     }
 
     private static void markets() {
-        promise = "19 market";
+        sentence("19 market");
         RoofAcross x = street("00k;00k;00k", "012");
         row("no wishes", of(x.market(NONE), x.market(-2), x.market(0), x.market(1), x.market(2)), 0, 0, 0, 1, 2);
         x.wish(0, 1, 9);
@@ -431,7 +393,7 @@ final class PromisesTest {
     }
 
     private static void bests() {
-        promise = "20 best";
+        sentence("20 best");
         RoofAcross x = street("00k;00k;00k", "120");
         row("no wishes: the least row", of(x.best(NONE), x.best(0), x.best(1), x.best(2)), 0, 0, 1, 2);
         x.wish(0, 1, 9);
@@ -457,7 +419,7 @@ final class PromisesTest {
     }
 
     private static void factsAndCould() {
-        promise = "21 fact, 22 forget, 23 could";
+        sentence("21 fact, 22 forget, 23 could");
         RoofAcross x = street("00k;00k;00k", "");
         row("no facts", of(x.could(NONE), x.could(0), x.could(2)), 6, 7, 7);
         due("fact(0, 0, 0)", x.fact(0, 0, 0), 1);
@@ -511,7 +473,7 @@ final class PromisesTest {
     }
 
     private static void asks() {
-        promise = "24 ask";
+        sentence("24 ask");
         RoofAcross x = street("00k;00k;00k", "");
         row("all alike", of(x.ask(0), x.ask(1)), 0, 2);
         x.fact(0, 0, 1);
@@ -535,7 +497,7 @@ final class PromisesTest {
     }
 
     private static void handsAhead() {
-        promise = "25 hands";
+        sentence("25 hands");
         RoofAcross x = street("09k;09k", "", 3, 1);
         int[] harm = {8, 6, 4, 3, 2, 1, 0, 0};
         int[] first = {0, 1, 1, 2, 3, 3, 3, 3};
@@ -559,7 +521,7 @@ final class PromisesTest {
     }
 
     private static void claimsAndLiars() {
-        promise = "26 claim, 27 liars";
+        sentence("26 claim, 27 liars");
         RoofAcross x = street("00l;30l;90l", "", 4, 5);
         due("nobody claims", x.liars(), 0);
         due("claim(0, 9)", x.claim(0, 9), NONE);
@@ -586,7 +548,7 @@ final class PromisesTest {
     }
 
     private static void sheetAndLose() {
-        promise = "28 sheet, 29 lose";
+        sentence("28 sheet, 29 lose");
         RoofAcross x = new RoofAcross();
         due("sheet(0, 0, 48)", x.sheet(0, 0, 48), 48);
         due("sheet(3, 2, 0)", x.sheet(3, 2, 0), 0);
@@ -616,7 +578,7 @@ final class PromisesTest {
     }
 
     private static void putAndGet() {
-        promise = "30 put, 31 get";
+        sentence("30 put, 31 get");
         RoofAcross x = new RoofAcross();
         for (int form = 0; form < 3; form++) {
             x.sheet(form, form, 3);
@@ -651,7 +613,7 @@ final class PromisesTest {
     }
 
     private static void copies() {
-        promise = "32 copy";
+        sentence("32 copy");
         RoofAcross x = new RoofAcross();
         x.sheet(0, 1, 5);
         x.sheet(1, 1, 4);
@@ -686,7 +648,7 @@ final class PromisesTest {
     }
 
     private static void writes() {
-        promise = "33 write";
+        sentence("33 write");
         RoofAcross x = street("00l;30l;90l", "", 9, 9, 9, 9, 9, 9, 9, 9, 9, 9, 9, 9);
         x.sheet(0, 0, 5);
         x.sheet(1, 2, 2);
@@ -708,7 +670,7 @@ final class PromisesTest {
     }
 
     private static void counts() {
-        promise = "34 count";
+        sentence("34 count");
         RoofAcross x = street("35k;24g;12f", "102", 4, 6);
         x.fact(0, 0, 1);
         x.set(0, 4);
@@ -725,15 +687,8 @@ final class PromisesTest {
         }
     }
 
-    private static long fold(long h, int... numbers) {
-        for (int v : numbers) {
-            h = 31 * h + v;
-        }
-        return h;
-    }
-
     private static void digests() {
-        promise = "35 digest";
+        sentence("35 digest");
         long empty = fold(17, 0, 0, 0, 0, 0, 0, 1, 0, NONE, NONE, 0, 0, 0, 0, 0, 0, 0, 1, NOT, NOT, 0, 0);
         due("a new object", new RoofAcross().digest(), empty);
         RoofAcross x = street("05l", "0", 1, 3);
@@ -765,25 +720,9 @@ final class PromisesTest {
         due("four houses", rich.digest(), foldedByTheDocument(rich));
     }
 
-    private static long foldedByTheDocument(RoofAcross x) {
-        long h = 17;
-        for (int i = 0; i < 8; i++) {
-            h = fold(h, x.count(i));
-        }
-        h = fold(h, x.fault(0), x.fault(1));
-        int k = x.count(3);
-        for (int it = 0; it < x.count(0); it++) {
-            h = fold(h, x.house(it, 0), x.house(it, 1), x.house(it, 2), x.house(it, 3), x.house(it, 4));
-            h = fold(h, x.tiles(it, k), x.purse(it, k), x.harm(it, k), x.laid(it, k), x.ring(it, 0), x.ring(it, 1));
-            h = fold(h, x.dry(it, 3, 0), x.dry(it, 3, 1), x.market(it), x.best(it), x.could(it), x.hands(9, it));
-        }
-        h = fold(h, x.all(k, 0), x.all(k, 1), x.all(k, 2), x.all(k, 3), x.market(NONE), x.market(-2), x.best(NONE));
-        return fold(h, x.could(NONE), x.ask(0), x.ask(1), x.hands(9, NONE), x.liars());
-    }
-
     /** What was answered once must not be answered again when what it hangs on has changed. */
     private static void answersFollowChanges() {
-        promise = "changes are seen";
+        sentence("changes are seen");
         RoofAcross x = street("02k;02k;30l", "012", 2, 2);
         row("at first", of(x.all(2, 2), x.harm(0, 2), x.dry(0, 3, 0), x.hands(0, NONE)), 6, 3, 1, 8);
         x.set(0, 3);
@@ -811,7 +750,7 @@ final class PromisesTest {
     }
 
     private static void refusalsChangeNothing() {
-        promise = "refusals";
+        sentence("refusals");
         RoofAcross x = street("35k;24g;12f", "120", 4, 6);
         x.fact(0, 0, 0);
         x.wish(0, 2, 3);
