@@ -12,7 +12,7 @@ public final class RoofAcross {
     private static final int MOST_RING = 5, MOST_DRY_HARM = 99, DIGEST_HARM = 3;
     private static final int MOST_WISH = 9, MOST_FACTS = 12, MOST_HANDS = 72, DIGEST_HANDS = 9;
     private static final int MOST_CLAIM = 999, BAD_CLAIM = -5, WISHES_HAD = -2;
-    private static final int SHEETS = 4, MOST_ITEMS = 48;
+    private static final int SHEETS = 4, MOST_ITEMS = 48, LEAST_INT = 1 << 31;
 
     /** Ways to own roofs are walked by the set of roofs taken so far: one place for each set. */
     private static final int SETS = 1 << MOST_HOUSES;
@@ -297,12 +297,12 @@ public final class RoofAcross {
 
     public int get(int s, int form, int i) {
         if (isNoSheet(s) || isNoForm(form)) {
-            return Integer.MIN_VALUE;
+            return LEAST_INT;
         }
         int finding = sheets[s].findingAt(form, i);
         if (finding != 0) {
             latestFinding = finding;
-            return Integer.MIN_VALUE;
+            return LEAST_INT;
         }
         return sheets[s].items[i];
     }
@@ -672,7 +672,7 @@ public final class RoofAcross {
                 }
             }
             for (int i = 0; i < number; i++) {
-                settle(who[i]);
+                settle(who[i], has(laidNow, who[i]));
             }
         }
 
@@ -690,8 +690,8 @@ public final class RoofAcross {
             }
         }
 
-        private void settle(int roof) {
-            if (has(laidNow, roof)) {
+        private void settle(int roof, boolean isLaid) {
+            if (isLaid) {
                 tiles[roof]++;
                 laid[roof]++;
                 purse[village.owner[roof]] -= weather.price;

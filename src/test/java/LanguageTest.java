@@ -6,8 +6,12 @@ import java.lang.reflect.Modifier;
 import java.nio.file.Files;
 import java.nio.file.Path;
 import java.util.Arrays;
+import java.util.Map;
 import java.util.Set;
+import java.util.TreeMap;
 import java.util.TreeSet;
+import java.util.regex.Matcher;
+import java.util.regex.Pattern;
 
 /** The rules of LANGUAGE.md that can be seen in the source or in the compiled class. */
 final class LanguageTest {
@@ -27,6 +31,8 @@ final class LanguageTest {
         face();
         classesInside();
         words(Files.readString(Path.of(SOURCE)));
+        libraryUsed(codeOf(Files.readString(Path.of(SOURCE))));
+        callsAreShallow(codeOf(Files.readString(Path.of(SOURCE))));
         methodsAreShort(Files.readAllLines(Path.of(SOURCE)));
         check.end();
     }
@@ -94,8 +100,13 @@ final class LanguageTest {
         }
     }
 
+    /** The source without its comments and what stands in its texts. */
+    private static String codeOf(String source) {
+        return source.replaceAll("(?s)/\\*.*?\\*/", " ").replaceAll("//[^\n]*", " ").replaceAll("\"[^\"]*\"", "\"\"");
+    }
+
     private static void words(String source) {
-        String code = source.replaceAll("(?s)/\\*.*?\\*/", " ").replaceAll("//[^\n]*", " ").replaceAll("\"[^\"]*\"", "\"\"");
+        String code = codeOf(source);
         String[] never = {
             "throw", "throws", "try", "catch", "synchronized", "assert", "import", "package", "float", "double", "System.out",
             "System.nanoTime", "System.currentTimeMillis", "Math.random", "Thread", "volatile", "native", "hashCode", "toString"
@@ -112,6 +123,45 @@ final class LanguageTest {
                     || line.contains("sheets[s] = new Sheet();");
             check.holds("the room: a call makes no object: " + line.trim(), !made || once);
         }
+    }
+
+    /** Rule 4 lists functions alone: a constant of the library (the least int) is none of them. */
+    private static void libraryUsed(String code) {
+        Set<String> listed = Set.of("System.arraycopy(", "Math.max(", "Math.min(", "Integer.bitCount(", "TEMPER_LETTERS.indexOf(");
+        Matcher used = Pattern.compile("\\b([A-Z]\\w*)\\.\\w+\\(?").matcher(code);
+        while (used.find()) {
+            check.holds("rule 4: " + used.group(), listed.contains(used.group()));
+        }
+    }
+
+    /** Methods of one name are taken as one, so that no way from call to call is left out. */
+    private static void callsAreShallow(String code) {
+        Map<String, Set<String>> calls = new TreeMap<>();
+        Matcher head = Pattern.compile("(?m)^( {4}| {8})(?:public |private )?(?:static )?(?:[\\w\\[\\]]+ )?(\\w+)\\([^()\n]*\\) \\{$").matcher(code);
+        while (head.find()) {
+            String body = code.substring(head.end(), code.indexOf("\n" + head.group(1) + "}", head.end()));
+            Matcher call = Pattern.compile("(\\w+)\\(").matcher(body);
+            while (call.find()) {
+                calls.computeIfAbsent(head.group(2), name -> new TreeSet<>()).add(call.group(1));
+            }
+        }
+        calls.values().forEach(names -> names.removeAll(Set.of("if", "for", "while", "switch", "return")));
+        check.holds("rule 11: methods were found", calls.keySet().containsAll(Set.of("digest", "liars", "pass", "RoofAcross")));
+        for (String name : calls.keySet()) {
+            int depth = depthOf(name, calls, 1);
+            check.holds("rules 8, 11: calls from " + name + " go " + depth + " deep", depth <= 8);
+        }
+    }
+
+    private static int depthOf(String name, Map<String, Set<String>> calls, int level) {
+        int deepest = 1;
+        if (level > 20) {
+            return deepest;
+        }
+        for (String called : calls.getOrDefault(name, Set.of())) {
+            deepest = Math.max(deepest, 1 + depthOf(called, calls, level + 1));
+        }
+        return deepest;
     }
 
     private static void methodsAreShort(java.util.List<String> lines) {
